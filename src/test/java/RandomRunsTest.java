@@ -2,7 +2,7 @@ import java.util.Random;
 
 /** Long random runs, held against the model call by call; the seeds are fixed. */
 public final class RandomRunsTest {
-    private static final int RUNS = 220;
+    private static final int RUNS = 300;
     private static final int CALLS = 480;
 
     private static final Checks checks = new Checks();
@@ -116,11 +116,8 @@ public final class RandomRunsTest {
     }
 
     private static int lookAtOrders() {
-        if (m.count(0) > 5 && dice.nextInt(4) != 0) {
-            return 1;
-        }
         for (int k = -2; k <= m.count(0); k++) {
-            due("orders(" + k + ")", x.orders(k), k <= 0 || dice.nextInt(4) == 0 ? m.orders(k) : x.orders(k));
+            due("orders(" + k + ")", x.orders(k), m.orders(k));
         }
         return m.count(0) + 3;
     }
