@@ -828,8 +828,6 @@ public final class NextBellboy {
                 leaves(cap, ahead);
             }
             cap = g;
-            work[g] = 0;
-            since[g] = come;
         }
 
         /** One without the cap only works off what is left, one hour at least. */
@@ -1046,8 +1044,6 @@ public final class NextBellboy {
                         payOut(cap, above, tips);
                         above = cap;
                         cap = g;
-                        tips = 0;
-                    } else if (cap == NONE) {
                         tips = 0;
                     }
                 }

@@ -224,6 +224,21 @@ public final class PromisesTest {
         x.pass(9);
         due("lay() again", x.lay(), 2);
         due("laid again: count(1)", x.count(1), 0);
+        states("laid again", x, 3, 0, 0);
+        states("laid again", x, 4, NONE, NONE);
+        states("laid again", x, 5, 0, 0);
+        x.wipe();
+        put(x, "g0,0,1,0,9;g0,0,1,5,1;g0,0,9,5,9;");
+        x.lay();
+        x.pass(1);
+        x.lay();
+        states("laid over it", x, 0, 0, 0, 0);
+        states("laid over it", x, 3, 0, 0, 0);
+        states("laid over it", x, 5, 0, 0, 0);
+        states("laid over it", x, 6, 0, 0, 0);
+        x.wipe();
+        put(x, "r7;g3,4,9,2,5;r8;g2,6,5,1,4;r9;");
+        x.lay();
         due("laid again: undo()", x.undo(), NO);
         due("laid again: back()", x.back(), NO);
         NextBellboy y = hotel("r5;g0,1,1,1,1;g0,1,1,1,1;");
@@ -439,6 +454,8 @@ public final class PromisesTest {
         due("hours are back", x.count(1), 0);
         states("hours are undone", x, 0, 0, 3, 0, 0, 0, 0);
         states("hours are undone", x, 3, 0, 0, 0, 0, 0, 0);
+        states("hours are undone", x, 4, NONE, NONE, NONE, NONE, NONE, NONE);
+        states("hours are undone", x, 5, 0, 0, 0, 0, 0, 0);
         due("the cap is undone", x.count(6), NONE);
         due("the coins are undone", x.count(7), 0);
         due("undo() of a change", x.undo(), 2);
@@ -514,6 +531,10 @@ public final class PromisesTest {
         y.call(1);
         due("of one called off", y.task(1), 0);
         due("whom it would have seen goes to another", y.task(0), 7 + 16);
+        NextBellboy z = hotel("g0,1,3,0,1;g0,0,1,0,1;g2,3,4,0,1;");
+        z.pass(2);
+        due("has seen the lowest", z.task(1), 3);
+        due("will see the highest", z.task(0), 4);
     }
 
     private static void early() {
@@ -600,6 +621,10 @@ public final class PromisesTest {
         NextBellboy never = hotel("g0,0,1,0,1;g2,0,30,0,1;g1,0,30,0,1;g0,20,1,0,1;r5;r5;r5;r5;");
         deals("there is no way", never, NONE, NONE, NONE, NONE, NONE);
         due("there is no way: deal(4)", never.deal(4), BAD);
+        // as it is 100 hours, with the farthest room for guest 0 but 30 + 60 + 1
+        NextBellboy once = hotel(ninetyNine(1));
+        due("done() without a deal is none", once.done(), NONE);
+        deals("a deal where there was none", once, 91, 2, 0, 1);
         NextBellboy gone = hotel("g0,0,1,0,1;g2,0,30,0,1;g1,0,30,0,1;r9;r9;r9;");
         gone.pass(1);
         deals("nobody is booked, and it is never done", gone, NONE, NONE, NONE, NONE);
@@ -629,6 +654,15 @@ public final class PromisesTest {
         never.pass(1);
         due("done by none: off(0)", never.off(0), NONE);
         due("done by none: off(1)", never.off(1), NONE);
+        // behind an hour guest 0 has 99 or 100 to do, and 3 is booked
+        NextBellboy last = hotel(ninetyNine(1) + "g0,20,1,0,1;");
+        last.pass(1);
+        due("99 hours: off(0)", last.off(0), 3);
+        due("99 hours: off(1)", last.off(1), 99);
+        NextBellboy late = hotel(ninetyNine(2) + "g0,20,1,0,1;");
+        late.pass(1);
+        due("100 hours: off(0)", late.off(0), NONE);
+        due("100 hours: off(1)", late.off(1), NONE);
         NextBellboy alike = hotel("g2,5,1,0,1;g2,5,1,0,1;g2,9,1,0,1;g2,9,1,0,1;");
         due("of several the lowest", alike.off(0), 0);
         due("of several: hours", alike.off(1), 10);
@@ -779,6 +813,10 @@ public final class PromisesTest {
         seasons("from the hour that is next on", soon, 5, 6, 0, 0);
         // 100 draws 2474: 2 modulo 8, guest 309 modulo 2 with 38 modulo 2, then 3 modulo 8
         String rooms = "g0,0,1,0,1;g0,0,1,5,9;r0;r1;";
+        // 217 draws 24946: guest 0 with 1, 2 modulo 8; then 4 modulo 8
+        NextBellboy half = hotel("g0,0,1,0,1;g0,1,1,5,9;r1;r3;");
+        half.pass(1);
+        seasons("no change with one who is here", half, 217, 2, 0, 0);
         seasons("two hours' work", hotel(rooms), 9999, 1, 0, 0);
         seasons("a change", hotel(rooms), 100, 1, 1, 5);
         NextBellboy x = hotel();
