@@ -224,7 +224,7 @@ public final class NextBellboy {
         }
         int best = NONE;
         int soonest = HORIZON + 1;
-        for (int g = 0; g < plan.size; g++) {
+        for (int g = 0; g < MOST_GUESTS && g < plan.size; g++) {
             if (house.isBooked(g)) {
                 trial.copyFrom(house);
                 trial.callOff(g);
@@ -457,7 +457,7 @@ public final class NextBellboy {
         }
 
         private boolean addGuest(int[] numbers) {
-            if (size >= MOST_GUESTS || numbers.length < 5) {
+            if (size < 0 || size >= MOST_GUESTS || numbers.length < 5) {
                 return false;
             }
             kind[size] = numbers[0];
@@ -470,7 +470,7 @@ public final class NextBellboy {
         }
 
         private boolean addRoom(int distance) {
-            if (rooms >= MOST_GUESTS) {
+            if (rooms < 0 || rooms >= MOST_GUESTS) {
                 return false;
             }
             far[rooms] = distance;
@@ -537,6 +537,20 @@ public final class NextBellboy {
             }
         }
 
+        private int hourOf(int g) {
+            return plan.has(g) ? hour[g] : NEVER;
+        }
+
+        private int roomOf(int g) {
+            return plan.has(g) ? far[g] : 0;
+        }
+
+        private void giveRoom(int g, int distance) {
+            if (plan.has(g)) {
+                far[g] = distance;
+            }
+        }
+
         private boolean isBooked(int g) {
             return plan.has(g) && status[g] == BOOKED;
         }
@@ -575,17 +589,17 @@ public final class NextBellboy {
         }
 
         private void oneHour() {
-            for (int g = 0; g < plan.size; g++) {
+            for (int g = 0; g < MOST_GUESTS && g < plan.size; g++) {
                 if (status[g] == BOOKED && hour[g] == gone) {
                     comes(g);
                 }
             }
-            for (int g = 0; g < plan.size; g++) {
+            for (int g = 0; g < MOST_GUESTS && g < plan.size; g++) {
                 if (status[g] == HERE) {
                     work[g] = Math.max(0, work[g] - plan.speed[g]);
                 }
             }
-            for (int g = 0; g < plan.size; g++) {
+            for (int g = 0; g < MOST_GUESTS && g < plan.size; g++) {
                 if (status[g] == HERE && g != cap && work[g] == 0) {
                     setFree(g);
                 }
@@ -594,6 +608,9 @@ public final class NextBellboy {
         }
 
         private void comes(int g) {
+            if (!plan.has(g)) {
+                return;
+            }
             if (plan.has(cap)) {
                 work[cap] += brings(g);
                 saw[cap] |= 1 << g;
@@ -609,8 +626,11 @@ public final class NextBellboy {
         }
 
         private void setFree(int g) {
+            if (!plan.has(g)) {
+                return;
+            }
             status[g] = FREE;
-            for (int other = 0; other < plan.size; other++) {
+            for (int other = 0; other < MOST_GUESTS && other < plan.size; other++) {
                 if ((saw[g] >> other & 1) == 1) {
                     coins[g] += plan.tip[other];
                 }
@@ -648,7 +668,7 @@ public final class NextBellboy {
 
         private int loadSoFar(int g) {
             int load = 0;
-            for (int other = 0; other < plan.size && plan.has(g); other++) {
+            for (int other = 0; other < MOST_GUESTS && other < plan.size && plan.has(g); other++) {
                 if ((saw[g] >> other & 1) == 1) {
                     load += brings(other);
                 }
@@ -658,7 +678,7 @@ public final class NextBellboy {
 
         private int howMany(int wanted) {
             int many = 0;
-            for (int g = 0; g < plan.size; g++) {
+            for (int g = 0; g < MOST_GUESTS && g < plan.size; g++) {
                 if (status[g] == wanted) {
                     many++;
                 }
@@ -668,7 +688,7 @@ public final class NextBellboy {
 
         private int allCoins() {
             int sum = 0;
-            for (int g = 0; g < plan.size; g++) {
+            for (int g = 0; g < MOST_GUESTS && g < plan.size; g++) {
                 sum += coins[g];
             }
             return sum;
@@ -676,7 +696,7 @@ public final class NextBellboy {
 
         private int allWork() {
             int sum = 0;
-            for (int g = 0; g < plan.size; g++) {
+            for (int g = 0; g < MOST_GUESTS && g < plan.size; g++) {
                 sum += work[g];
             }
             return sum;
@@ -769,10 +789,10 @@ public final class NextBellboy {
 
         private void lineUp(House house) {
             waiting = 0;
-            for (int g = 0; g < plan.size; g++) {
-                if (house.status[g] == BOOKED) {
+            for (int g = 0; g < MOST_GUESTS && g < plan.size; g++) {
+                if (house.status[g] == BOOKED && waiting < MOST_GUESTS) {
                     int at = waiting;
-                    while (at > 0 && house.hour[line[at - 1]] > house.hour[g]) {
+                    while (at > 0 && house.hourOf(line[at - 1]) > house.hourOf(g)) {
                         line[at] = line[at - 1];
                         at--;
                     }
@@ -785,7 +805,7 @@ public final class NextBellboy {
         /** Rooms may differ from those at lineUp, hours may not. */
         private void reckon(House house) {
             begin(house);
-            for (int i = 0; i < waiting; i++) {
+            for (int i = 0; i < MOST_GUESTS && i < waiting; i++) {
                 int g = line[i];
                 if (plan.has(g)) {
                     meets(g, house);
@@ -796,7 +816,7 @@ public final class NextBellboy {
         private void begin(House house) {
             cap = house.cap;
             allDone = 0;
-            for (int g = 0; g < plan.size; g++) {
+            for (int g = 0; g < MOST_GUESTS && g < plan.size; g++) {
                 load[g] = 0;
                 work[g] = house.work[g];
                 since[g] = house.gone;
@@ -842,6 +862,8 @@ public final class NextBellboy {
 
     /** DEAL: a search through the ways to give out the rooms, in the order of their telling. */
     private static final class Dealing {
+        private static final int NO_PICK = -1;
+
         private final Plan plan;
         private final House trial;
         private final Outlook outlook;
@@ -889,17 +911,24 @@ public final class NextBellboy {
             many = 0;
             taken = 0;
             nearest = NEVER;
-            for (int g = 0; g < plan.size; g++) {
+            for (int g = 0; g < MOST_GUESTS && g < plan.size; g++) {
                 owner[g] = NONE;
-                if (trial.status[g] == BOOKED) {
+                if (trial.status[g] == BOOKED && many < MOST_GUESTS) {
                     who[many] = g;
                     many++;
                     nearest = Math.min(nearest, trial.far[g]);
                 }
             }
-            for (int i = 0; i < many; i++) {
-                trial.far[who[i]] = nearest;
+            for (int i = 0; i < MOST_GUESTS; i++) {
+                pick[i] = NO_PICK;
+                if (isPlace(i)) {
+                    trial.giveRoom(who[i], nearest);
+                }
             }
+        }
+
+        private boolean isPlace(int i) {
+            return i >= 0 && i < many && i < MOST_GUESTS;
         }
 
         /**
@@ -909,8 +938,7 @@ public final class NextBellboy {
         private void search(House house) {
             outlook.lineUp(trial);
             int depth = 0;
-            pick[0] = -1;
-            for (int step = 0; step < MOST_STEPS && depth >= 0 && depth < many; step++) {
+            for (int step = 0; step < MOST_STEPS && isPlace(depth); step++) {
                 if (!pickNext(depth, house)) {
                     depth--;
                     continue;
@@ -924,33 +952,38 @@ public final class NextBellboy {
                     writeDown();
                 } else {
                     depth++;
-                    pick[depth] = -1;
                 }
             }
         }
 
         private boolean pickNext(int depth, House house) {
+            if (!isPlace(depth)) {
+                return false;
+            }
             int last = pick[depth];
-            if (last >= 0) {
+            if (isPlace(last)) {
                 taken &= ~(1 << last);
             }
             int next = last + 1;
             while (next < many && (taken >> next & 1) == 1) {
                 next++;
             }
-            if (next >= many) {
-                trial.far[who[depth]] = nearest;
+            if (!isPlace(next)) {
+                pick[depth] = NO_PICK;
+                trial.giveRoom(who[depth], nearest);
                 return false;
             }
             pick[depth] = next;
             taken |= 1 << next;
-            trial.far[who[depth]] = house.far[who[next]];
+            trial.giveRoom(who[depth], house.roomOf(who[next]));
             return true;
         }
 
         private void writeDown() {
-            for (int i = 0; i < many; i++) {
-                owner[who[i]] = who[pick[i]];
+            for (int i = 0; i < MOST_GUESTS && i < many; i++) {
+                if (plan.has(who[i]) && isPlace(pick[i])) {
+                    owner[who[i]] = who[pick[i]];
+                }
             }
         }
     }
@@ -997,7 +1030,7 @@ public final class NextBellboy {
             }
             stale = false;
             total = 0;
-            for (int i = 0; i < plan.size; i++) {
+            for (int i = 0; i < MOST_GUESTS && i < plan.size; i++) {
                 order[i] = i;
             }
             boolean more = true;
@@ -1012,7 +1045,7 @@ public final class NextBellboy {
 
         private void noteOrder() {
             if (total == 0) {
-                for (int i = 0; i < plan.size; i++) {
+                for (int i = 0; i < MOST_GUESTS && i < plan.size; i++) {
                     first[i] = order[i];
                 }
             }
@@ -1020,7 +1053,7 @@ public final class NextBellboy {
         }
 
         private boolean isAsSeen() {
-            for (int i = 0; i < size; i++) {
+            for (int i = 0; i < MOST_SEEN && i < size; i++) {
                 if (plan.has(who[i]) && coins[who[i]] != sum[i]) {
                     return false;
                 }
@@ -1030,13 +1063,13 @@ public final class NextBellboy {
 
         /** As all are done with their work ahead of each coming, the one who loses the cap is free then. */
         private void comeInOrder() {
-            for (int g = 0; g < plan.size; g++) {
+            for (int g = 0; g < MOST_GUESTS && g < plan.size; g++) {
                 coins[g] = 0;
             }
             int cap = NONE;
             int above = NONE;
             int tips = 0;
-            for (int i = 0; i < plan.size; i++) {
+            for (int i = 0; i < MOST_GUESTS && i < plan.size; i++) {
                 int g = order[i];
                 if (plan.has(g)) {
                     tips += plan.tip[g];
@@ -1063,20 +1096,21 @@ public final class NextBellboy {
         }
 
         private boolean nextOrder() {
-            int turn = plan.size - 2;
+            int last = Math.min(MOST_GUESTS, plan.size) - 1;
+            int turn = last - 1;
             while (turn >= 0 && order[turn] > order[turn + 1]) {
                 turn--;
             }
             if (turn < 0) {
                 return false;
             }
-            int other = plan.size - 1;
+            int other = last;
             while (other > turn && order[other] < order[turn]) {
                 other--;
             }
             swap(turn, other);
             int low = turn + 1;
-            int high = plan.size - 1;
+            int high = last;
             while (low < high) {
                 swap(low, high);
                 low++;
@@ -1086,9 +1120,11 @@ public final class NextBellboy {
         }
 
         private void swap(int i, int j) {
-            int held = order[i];
-            order[i] = order[j];
-            order[j] = held;
+            if (plan.has(i) && plan.has(j)) {
+                int held = order[i];
+                order[i] = order[j];
+                order[j] = held;
+            }
         }
     }
 
@@ -1110,8 +1146,8 @@ public final class NextBellboy {
 
         private void weigh(House house, int g, int x) {
             many = 0;
-            for (int i = 0; i < plan.size; i++) {
-                if (house.status[i] == BOOKED) {
+            for (int i = 0; i < MOST_GUESTS && i < plan.size; i++) {
+                if (house.status[i] == BOOKED && many < MOST_GUESTS) {
                     who[many] = i;
                     many++;
                 }
@@ -1140,8 +1176,10 @@ public final class NextBellboy {
         }
 
         private boolean isFreeWithout(int away, int g) {
-            for (int i = 0; i < many; i++) {
-                trial.status[who[i]] = (away >> i & 1) == 1 ? CALLED_OFF : BOOKED;
+            for (int i = 0; i < MOST_GUESTS && i < many; i++) {
+                if (plan.has(who[i])) {
+                    trial.status[who[i]] = (away >> i & 1) == 1 ? CALLED_OFF : BOOKED;
+                }
             }
             outlook.look(trial);
             return plan.has(g) && outlook.freeBehind[g] <= HORIZON;

@@ -53,27 +53,7 @@ public final class PromisesTest {
     }
 
     private static NextBellboy hotel(String text) {
-        NextBellboy x = written(text);
-        checks.holds("lay() of " + text, x.lay() > 0);
-        return x;
-    }
-
-    private static NextBellboy written(String text) {
-        NextBellboy x = new NextBellboy();
-        put(x, text);
-        return x;
-    }
-
-    private static void put(NextBellboy x, String text) {
-        for (int i = 0; i < text.length(); i++) {
-            x.write(text.charAt(i));
-        }
-    }
-
-    private static void pass(NextBellboy x, int hours) {
-        for (int left = hours; left > 0; left -= 24) {
-            x.pass(Math.min(24, left));
-        }
+        return Hotels.laid(text);
     }
 
     /** What is due of every guest: state(g, what) for all of them. */
@@ -102,7 +82,7 @@ public final class PromisesTest {
         due("NONE", NextBellboy.NONE, -4);
         NextBellboy other = hotel();
         x.pass(24);
-        put(x, "gg");
+        Hotels.put(x, "gg");
         due("another object stays", other.count(1), 0);
         due("another object's text stays", other.count(12), 0);
     }
@@ -130,7 +110,7 @@ public final class PromisesTest {
     private static void wipe() {
         NextBellboy x = hotel();
         due("wipe() of nothing", x.wipe(), 0);
-        put(x, "r3;");
+        Hotels.put(x, "r3;");
         due("wipe()", x.wipe(), 3);
         due("wipe() again", x.wipe(), 0);
         due("behind wipe()", x.write('g'), 1);
@@ -143,7 +123,7 @@ public final class PromisesTest {
     }
 
     private static void faultOf(String text, int want) {
-        due("fault() of " + text, written(text).fault(), want);
+        due("fault() of " + text, Hotels.written(text).fault(), want);
     }
 
     private static void fault() {
@@ -187,7 +167,7 @@ public final class PromisesTest {
         faultOf(guests + "r1;", NONE);
         faultOf(guests + "g0,0,1,0,1;", 77);
         faultOf("g0,0,1,0,1;r1;r2;r3;", NONE);
-        NextBellboy x = written("g0,2,10,4,3");
+        NextBellboy x = Hotels.written("g0,2,10,4,3");
         due("fault() of an unended item", x.fault(), 0);
         x.write(';');
         due("fault() as it is ended", x.fault(), NONE);
@@ -200,10 +180,10 @@ public final class PromisesTest {
         x.see(1, 3);
         x.keep();
         due("lay() of nothing", x.lay(), NO);
-        put(x, "r1;r2;");
+        Hotels.put(x, "r1;r2;");
         due("lay() without a guest", x.lay(), NO);
         x.wipe();
-        put(x, "g0,2,10,4,3;q");
+        Hotels.put(x, "g0,2,10,4,3;q");
         due("lay() with a fault", x.lay(), NO);
         due("NO leaves the hours", x.count(1), 3);
         due("NO leaves the guests", x.count(0), 6);
@@ -212,7 +192,7 @@ public final class PromisesTest {
         due("NO leaves what is kept", x.count(11), 1);
         due("NO leaves the cap", x.count(6), 0);
         x.wipe();
-        put(x, "r7;g3,4,9,2,5;r8;g2,6,5,1,4;r9;");
+        Hotels.put(x, "r7;g3,4,9,2,5;r8;g2,6,5,1,4;r9;");
         due("lay()", x.lay(), 2);
         int[] counts = {2, 0, 2, 0, 0, 0, NONE, 0, 0, 0, 0, 0, 31};
         for (int what = 0; what < counts.length; what++) {
@@ -228,7 +208,7 @@ public final class PromisesTest {
         states("laid again", x, 4, NONE, NONE);
         states("laid again", x, 5, 0, 0);
         x.wipe();
-        put(x, "g0,0,1,0,9;g0,0,1,5,1;g0,0,9,5,9;");
+        Hotels.put(x, "g0,0,1,0,9;g0,0,1,5,1;g0,0,9,5,9;");
         x.lay();
         x.pass(1);
         x.lay();
@@ -237,7 +217,7 @@ public final class PromisesTest {
         states("laid over it", x, 5, 0, 0, 0);
         states("laid over it", x, 6, 0, 0, 0);
         x.wipe();
-        put(x, "r7;g3,4,9,2,5;r8;g2,6,5,1,4;r9;");
+        Hotels.put(x, "r7;g3,4,9,2,5;r8;g2,6,5,1,4;r9;");
         x.lay();
         due("laid again: undo()", x.undo(), NO);
         due("laid again: back()", x.back(), NO);
@@ -245,7 +225,7 @@ public final class PromisesTest {
         states("a room is wanting", y, 2, 5, 0);
         NextBellboy z = hotel("r9;r9;r9;g0,1,1,1,1;");
         z.wipe();
-        put(z, "g0,1,1,1,1;g0,1,1,1,1;");
+        Hotels.put(z, "g0,1,1,1,1;g0,1,1,1,1;");
         z.lay();
         states("rooms of an earlier hotel are gone", z, 2, 0, 0);
         NextBellboy seven = hotel("g0,0,1,0,1;".repeat(7));
@@ -293,7 +273,7 @@ public final class PromisesTest {
         due("state(0, 7)", x.state(0, 7), BAD);
         due("state(0, -1)", x.state(0, -1), BAD);
         due("state(MIN, MIN)", x.state(Integer.MIN_VALUE, Integer.MIN_VALUE), BAD);
-        pass(x, 24);
+        Hotels.pass(x, 24);
         states("in the end, without the baby", x, 6, 12, 3, 0, 4, 3, 0);
     }
 
@@ -369,7 +349,7 @@ public final class PromisesTest {
         due("pass on", x.pass(24), 73);
         due("the cap stays", x.count(6), 5);
         NextBellboy last = hotel("g0,40,1,1,1;");
-        pass(last, 40);
+        Hotels.pass(last, 40);
         due("ahead of hour 40", last.state(0, 0), 0);
         last.pass(1);
         due("in hour 40", last.state(0, 0), 1);
@@ -478,7 +458,7 @@ public final class PromisesTest {
         x.see(0, 3);
         x.pass(2);
         x.see(1, 3);
-        put(x, "r");
+        Hotels.put(x, "r");
         x.undo();
         due("what is seen stays", x.count(9), 2);
         due("the text stays", x.count(12), 1);
@@ -503,13 +483,8 @@ public final class PromisesTest {
         x.call(5);
         due("freed of one called off", x.freed(5), NONE);
         due("freed of the last wearer", x.freed(4), NONE);
-        due("freed(0) at 99 hours", hotel(ninetyNine(0)).freed(0), 99);
-        due("freed(0) at 100 hours", hotel(ninetyNine(1)).freed(0), NONE);
-    }
-
-    /** Guest 0, who does 1 an hour, has 30 and 69 to do in hour 0, and as much more. */
-    private static String ninetyNine(int more) {
-        return "g0,0,1,0,1;g2,0,30,0,1;g1,0,30,0,1;r0;r" + more + ";r9;";
+        due("freed(0) at 99 hours", hotel(Hotels.doneBehind(99)).freed(0), 99);
+        due("freed(0) at 100 hours", hotel(Hotels.doneBehind(100)).freed(0), NONE);
     }
 
     private static void task() {
@@ -524,7 +499,7 @@ public final class PromisesTest {
         due("has seen and will see", x.task(1), 23);
         x.change(3, 5);
         due("with the room as it comes", x.task(1), 22);
-        pass(x, 24);
+        Hotels.pass(x, 24);
         due("has seen", x.task(1), 22);
         due("of one free", x.task(0), 21);
         NextBellboy y = hotel();
@@ -581,8 +556,8 @@ public final class PromisesTest {
         NextBellboy baby = hotel("g2,7,1,0,1;");
         due("done() of a baby", baby.done(), 8);
         due("the wearer's work does not count", hotel("g0,0,1,0,1;g2,3,30,0,1;").done(), 4);
-        due("done() at 99 hours", hotel(ninetyNine(0)).done(), 99);
-        due("done() at 100 hours", hotel(ninetyNine(1)).done(), NONE);
+        due("done() at 99 hours", hotel(Hotels.doneBehind(99)).done(), 99);
+        due("done() at 100 hours", hotel(Hotels.doneBehind(100)).done(), NONE);
     }
 
     private static void deals(String when, NextBellboy x, int hours, int... owners) {
@@ -622,7 +597,7 @@ public final class PromisesTest {
         deals("there is no way", never, NONE, NONE, NONE, NONE, NONE);
         due("there is no way: deal(4)", never.deal(4), BAD);
         // as it is 100 hours, with the farthest room for guest 0 but 30 + 60 + 1
-        NextBellboy once = hotel(ninetyNine(1));
+        NextBellboy once = hotel(Hotels.doneBehind(100));
         due("done() without a deal is none", once.done(), NONE);
         deals("a deal where there was none", once, 91, 2, 0, 1);
         NextBellboy gone = hotel("g0,0,1,0,1;g2,0,30,0,1;g1,0,30,0,1;r9;r9;r9;");
@@ -631,7 +606,7 @@ public final class PromisesTest {
         NextBellboy alike = hotel("g0,3,1,0,1;g0,2,1,0,1;g0,1,1,0,1;r4;r4;r4;");
         deals("of several ways the first", alike, 8, 0, 1, 2);
         x.wipe();
-        put(x, "g0,9,1,0,1;");
+        Hotels.put(x, "g0,9,1,0,1;");
         x.lay();
         deals("laid anew", x, 10, 0);
     }
@@ -643,7 +618,7 @@ public final class PromisesTest {
         due("off(2)", x.off(2), BAD);
         due("off(-1)", x.off(-1), BAD);
         due("nobody is called off by it", x.count(5), 0);
-        pass(x, 20);
+        Hotels.pass(x, 20);
         due("nobody is booked: off(0)", x.off(0), NONE);
         due("nobody is booked: off(1)", x.off(1), NONE);
         due("nobody is booked: off(2)", x.off(2), BAD);
@@ -655,11 +630,11 @@ public final class PromisesTest {
         due("done by none: off(0)", never.off(0), NONE);
         due("done by none: off(1)", never.off(1), NONE);
         // behind an hour guest 0 has 99 or 100 to do, and 3 is booked
-        NextBellboy last = hotel(ninetyNine(1) + "g0,20,1,0,1;");
+        NextBellboy last = hotel(Hotels.doneBehind(100) + "g0,20,1,0,1;");
         last.pass(1);
         due("99 hours: off(0)", last.off(0), 3);
         due("99 hours: off(1)", last.off(1), 99);
-        NextBellboy late = hotel(ninetyNine(2) + "g0,20,1,0,1;");
+        NextBellboy late = hotel(Hotels.doneBehind(101) + "g0,20,1,0,1;");
         late.pass(1);
         due("100 hours: off(0)", late.off(0), NONE);
         due("100 hours: off(1)", late.off(1), NONE);
@@ -741,7 +716,7 @@ public final class PromisesTest {
         due("halves go up, cut", z.orders(-1), 1);
         due("halves go up: the first", z.orders(0), 0);
         z.wipe();
-        put(z, "g0,1,1,1,1;");
+        Hotels.put(z, "g0,1,1,1,1;");
         z.lay();
         due("laid anew", z.orders(-1), 1);
         due("laid anew: the first", z.orders(0), 0);
@@ -777,10 +752,10 @@ public final class PromisesTest {
         off.call(1);
         chance("one called off", off, 1, 4, 0, 1);
         chance("a baby must come itself", off, 0, 4, 3, 5);
-        chance("99 hours", hotel(ninetyNine(0)), 0, 0, 1, 1);
-        chance("100 hours", hotel(ninetyNine(1)), 0, 0, 0, 1);
+        chance("99 hours", hotel(Hotels.doneBehind(99)), 0, 0, 1, 1);
+        chance("100 hours", hotel(Hotels.doneBehind(100)), 0, 0, 0, 1);
         // at 100 hours guest 0 is free as the bishop comes without the baby: 1/2 x 1/2 x 1/2
-        chance("100 hours, if all come", hotel(ninetyNine(1)), 0, 5, 1, 8);
+        chance("100 hours, if all come", hotel(Hotels.doneBehind(100)), 0, 5, 1, 8);
         NextBellboy seven = hotel("g0,0,1,0,9;".repeat(7));
         // guest 0 comes, and any of six others: 1/10 x (1 - (9/10)^6)
         chance("seven", seven, 0, 9, 468559, 10000000);
@@ -805,7 +780,7 @@ public final class PromisesTest {
         seasons("it can't be booked", here, 42, 1, 1, 5);
         // 5 draws 56728 = 8 x 7091 = 64 x 886 + 24, then 47269 (5 modulo 8)
         NextBellboy late = hotel("g0,0,1,0,9;g0,39,1,5,9;");
-        pass(late, 39);
+        Hotels.pass(late, 39);
         seasons("40 at most", late, 5, 1, 0, 0);
         seasons("40 at most", late, 5, 2, 1, 5);
         NextBellboy soon = hotel("g0,0,1,0,9;g0,39,1,5,9;");
@@ -855,7 +830,7 @@ public final class PromisesTest {
         x.call(5);
         x.keep();
         x.see(3, 3);
-        put(x, "r5");
+        Hotels.put(x, "r5");
         x.pass(24);
         x.see(4, 4);
         due("back()", x.back(), 1);
@@ -889,7 +864,7 @@ public final class PromisesTest {
         x.see(1, 3);
         x.see(1, 4);
         x.keep();
-        put(x, "r1;r");
+        Hotels.put(x, "r1;r");
         // 0 has 21 - 3 - 3 to do, 1 saw to the baby in hour 5: 7 - 2
         int[] counts = {6, 6, 2, 2, 1, 1, 1, 0, 15 + 5, 3, 3, 1, 4};
         for (int what = 0; what < counts.length; what++) {
@@ -898,7 +873,7 @@ public final class PromisesTest {
         due("count(13)", x.count(13), BAD);
         due("count(-1)", x.count(-1), BAD);
         due("count(MAX)", x.count(Integer.MAX_VALUE), BAD);
-        pass(x, 30);
+        Hotels.pass(x, 30);
         due("coins in the end", x.count(7), 9 + 0 + 5 + 2);
     }
 }
