@@ -1,3 +1,4 @@
+import java.lang.reflect.Array;
 import java.lang.reflect.Constructor;
 import java.lang.reflect.Field;
 import java.lang.reflect.Method;
@@ -6,6 +7,8 @@ import java.nio.charset.StandardCharsets;
 import java.nio.file.Files;
 import java.nio.file.Paths;
 import java.util.Arrays;
+import java.util.IdentityHashMap;
+import java.util.Map;
 import java.util.Set;
 import java.util.TreeSet;
 import java.util.regex.Matcher;
@@ -37,6 +40,7 @@ public final class FaceTest {
         fields(face);
         constructors(face);
         inside(face);
+        room();
         source(new String(Files.readAllBytes(Paths.get(args[0])), StandardCharsets.UTF_8));
         checks.close("FaceTest");
     }
@@ -114,6 +118,36 @@ public final class FaceTest {
         for (Method m : c.getDeclaredMethods()) {
             checks.holds(m + " takes seven at most", m.getParameterCount() <= 7);
         }
+    }
+
+    /** What one object takes for all its calls, as none of them makes another. */
+    private static void room() throws IllegalAccessException {
+        Map<Object, Boolean> made = new IdentityHashMap<>();
+        int places = walk(new NextBellboy(), made);
+        checks.holds("few objects and arrays: " + made.size(), made.size() <= 200);
+        checks.holds("few fields and elements: " + places, places <= 2000);
+    }
+
+    private static int walk(Object one, Map<Object, Boolean> made) throws IllegalAccessException {
+        if (one == null || one instanceof String || made.put(one, true) != null) {
+            return 0;
+        }
+        int places = 0;
+        if (one.getClass().isArray()) {
+            places = Array.getLength(one);
+            int length = places;
+            for (int i = 0; one instanceof Object[] && i < length; i++) {
+                places += walk(((Object[]) one)[i], made);
+            }
+            return places;
+        }
+        for (Field f : one.getClass().getDeclaredFields()) {
+            if (!Modifier.isStatic(f.getModifiers())) {
+                f.setAccessible(true);
+                places += 1 + (f.getType().isPrimitive() ? 0 : walk(f.get(one), made));
+            }
+        }
+        return places;
     }
 
     private static void source(String text) {

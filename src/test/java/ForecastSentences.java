@@ -52,9 +52,42 @@ final class ForecastSentences extends Sentences {
         off.call(0);
         due("called off", off.freed(0), NONE);
         due("seen to by nobody, and nobody behind it", Hotels.laid(LONE).freed(0), NONE);
+        // work left as the next one comes, none left, and one hour's work more or less
+        asItComes("g0,2,1,0,1;g2,3,9,0,1;g2,5,9,0,1;g2,6,9,0,1;g0,8,7,0,1;");
+        asItComes("g0,2,1,0,2;g2,3,9,0,1;g2,5,4,0,1;g2,12,3,0,1;g0,14,7,0,1;");
+        asItComes("g0,0,1,0,3;g0,1,7,0,2;g0,1,6,0,1;g0,2,8,0,4;g2,3,5,0,1;g0,9,2,0,1;r1;r2;r3;r4;");
+        asItComes("g1,3,8,0,3;g3,5,3,0,1;g3,5,1,0,2;g3,6,1,0,2;g2,6,1,0,1;g1,7,5,0,1;");
+        due("0 to do: in that very hour", Hotels.laid("g0,0,1,0,1;g3,4,1,0,1;").freed(0), 5);
+        due("as much to do as one does: in that hour too", Hotels.laid("g0,0,1,0,9;g0,4,9,0,1;").freed(0), 5);
+        due("1 more to do: in the next", Hotels.laid("g0,0,1,0,9;g0,4,10,0,1;").freed(0), 6);
         // as late as can be: the work begins in hour 40
         due("behind 41 and 58 more", Hotels.laid("g0,0,1,0,1;g1,40,29,0,1;r0;r1;").freed(0), 99);
         due("behind 41 and 59 more", Hotels.laid("g0,0,1,0,1;g1,40,29,0,1;r0;r2;").freed(0), NONE);
+    }
+
+    /** What is told in each hour, against the hours as they go by then. */
+    private void asItComes(String text) {
+        NextBellboy twin = Hotels.laid(text);
+        int guests = twin.count(0);
+        int[] free = new int[guests];
+        int done = NONE;
+        for (int hour = 0; hour <= 40; hour++) {
+            for (int g = 0; g < guests; g++) {
+                free[g] = twin.state(g, 0) == 2 ? free[g] : hour + 1;
+            }
+            boolean isDone = twin.count(2) == 0 && twin.count(3) == (twin.count(6) == NONE ? 0 : 1);
+            done = done == NONE && isDone ? hour : done;
+            twin.pass(1);
+        }
+        NextBellboy x = Hotels.laid(text);
+        for (int hour = 0; hour <= 40; hour++) {
+            for (int g = 0; g < guests; g++) {
+                int due = free[g] > 40 ? NONE : Math.max(0, free[g] - hour);
+                due(text + " in hour " + hour + ": freed(" + g + ")", x.freed(g), due);
+            }
+            due(text + " in hour " + hour + ": done()", x.done(), Math.max(0, done - hour));
+            x.pass(1);
+        }
     }
 
     private void taskIsWhatAllBring() {
@@ -82,6 +115,9 @@ final class ForecastSentences extends Sentences {
         NextBellboy rooms = Hotels.laid("g0,0,1,0,1;g2,1,5,0,1;g0,2,5,0,1;r1;r2;r9;");
         rooms.change(1, 2);
         due("by the room as it is", rooms.task(0), 14 + 7);
+        NextBellboy low = Hotels.laid("g0,1,5,0,1;g0,0,1,0,1;");
+        low.pass(2);
+        due("has seen guest 0", low.task(1), 5);
         NextBellboy late = Hotels.laid("g0,0,1,0,1;g0,40,5,0,1;");
         due("of one that comes in hour 40", late.task(0), 5);
         NextBellboy off = Hotels.laid("g0,0,1,0,1;g0,1,5,0,1;");

@@ -409,6 +409,13 @@ final class TextSentences extends Sentences {
         due("nothing is kept", x.back(), NO);
         due("nothing is seen", x.forget(), 0);
         due("the text can be laid again", x.lay(), 3);
+        // laid over work that is left
+        Hotels.relay(x, "g0,0,1,0,1;g0,0,30,0,1;g2,0,30,5,1;");
+        x.pass(1);
+        due("what all have to do", x.count(8), 30 - 1 + 30 - 1);
+        Hotels.relay(x, text);
+        due("laid over it", x.count(8), 0);
+        states("laid over it", x, 3, 0, 0, 0);
         // NO with all shelves full
         for (int i = 0; i < 9; i++) {
             x.pass(1);
