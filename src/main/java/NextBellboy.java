@@ -738,12 +738,16 @@ public final class NextBellboy {
         }
 
         private void dropOldest() {
-            House oldest = rows[0];
-            for (int i = 1; i < rows.length; i++) {
-                rows[i - 1] = rows[i];
+            int last = rows.length - 1;
+            if (last < 0) {
+                return;
             }
-            rows[rows.length - 1] = oldest;
-            size = rows.length - 1;
+            House oldest = rows[0];
+            for (int i = 0; i < last; i++) {
+                rows[i] = rows[i + 1];
+            }
+            rows[last] = oldest;
+            size = last;
         }
 
         private boolean takeInto(House house) {
